@@ -1,0 +1,66 @@
+import java.nio.charset.StandardCharsets;
+
+/** What the tests share: counting wrong answers, and telling an object a text. */
+final class Check {
+    private int wrong = 0;
+    private int asked = 0;
+    private final String name;
+
+    Check(String name) {
+        this.name = name;
+    }
+
+    void due(String call, long got, long want) {
+        asked++;
+        if (got != want) {
+            wrong++;
+            if (wrong <= 40) {
+                System.out.println(name + ": " + call + " answered " + got + ", due is " + want);
+            }
+        }
+    }
+
+    void due(String call, boolean got, boolean want) {
+        due(call, got ? 1 : 0, want ? 1 : 0);
+    }
+
+    void end() {
+        System.out.println(name + ": " + asked + " answers, " + wrong + " wrong");
+        if (wrong != 0) {
+            System.exit(1);
+        }
+    }
+
+    boolean isWrong() {
+        return wrong != 0;
+    }
+
+    /** Puts a text on the tape (its characters as bytes), the last twenty cut by back(). */
+    static void put(BabyRound x, String text) {
+        byte[] bytes = text.getBytes(StandardCharsets.ISO_8859_1);
+        for (int i = 0; i < bytes.length; i += 20) {
+            int[] five = new int[5];
+            for (int j = 0; j < 20; j++) {
+                int b = i + j < bytes.length ? bytes[i + j] & 255 : ' ';
+                five[j / 4] = five[j / 4] << 8 | b;
+            }
+            x.feed(five[0], five[1], five[2], five[3], five[4]);
+        }
+        x.back((20 - bytes.length % 20) % 20);
+    }
+
+    static int tellText(BabyRound x, String text) {
+        put(x, text);
+        return x.read();
+    }
+
+    /** A new object that has read a text, which has no fault. */
+    static BabyRound of(String text) {
+        BabyRound x = new BabyRound();
+        int fault = tellText(x, text);
+        if (fault != 0) {
+            throw new IllegalStateException("fault " + fault + " at " + x.place() + " of " + text);
+        }
+        return x;
+    }
+}
