@@ -963,6 +963,9 @@ public final class BabyRound {
         final Least crying = new Least();
         final Least apart = new Least();
         int sitting;
+        /** What was searched last: as long as nothing has changed, the same m needs no second search. */
+        int searchedMinutes;
+        int searchedChange;
 
         Orders(Day day) {
             this.day = day;
@@ -976,7 +979,12 @@ public final class BabyRound {
             return s == null ? nowhere : s;
         }
 
-        void search(State from, int m) {
+        void search(State from, int m, int change) {
+            if (m == searchedMinutes && change == searchedChange) {
+                return;
+            }
+            searchedMinutes = m;
+            searchedChange = change;
             begin(from);
             int changed = 0;
             for (int i = 0; i < MOST_ORDERS && changed >= 0; i++) {
@@ -1065,6 +1073,8 @@ public final class BabyRound {
         final State[] rows = new State[MOST_UNDONE];
         int size;
         int behindLast;
+        /** Whatever changes how it stands goes through here, and counts. */
+        int changes;
 
         Undoing() {
             for (int i = 0; i < rows.length; i++) {
@@ -1075,9 +1085,11 @@ public final class BabyRound {
         void begin() {
             size = 0;
             behindLast = 0;
+            changes++;
         }
 
         void note(State s) {
+            changes++;
             if (behindLast >= 0 && behindLast < rows.length && rows[behindLast] != null) {
                 rows[behindLast].takeFrom(s);
             }
@@ -1090,6 +1102,7 @@ public final class BabyRound {
                 return false;
             }
             size--;
+            changes++;
             behindLast = behindLast > 0 ? behindLast - 1 : MOST_UNDONE - 1;
             if (behindLast >= 0 && behindLast < rows.length) {
                 s.takeFrom(rows[behindLast]);
@@ -1277,7 +1290,7 @@ public final class BabyRound {
         if (asleepOrAlone()) {
             return NOT_SO;
         }
-        orders.search(state, m);
+        orders.search(state, m, undoing.changes);
         return orders.crying.worth;
     }
 
@@ -1291,7 +1304,7 @@ public final class BabyRound {
         if (i >= told.aunts) {
             return NONE;
         }
-        orders.search(state, m);
+        orders.search(state, m, undoing.changes);
         return at(orders.bestOrder, i);
     }
 
@@ -1302,7 +1315,7 @@ public final class BabyRound {
         if (asleepOrAlone()) {
             return NOT_SO;
         }
-        orders.search(state, m);
+        orders.search(state, m, undoing.changes);
         return orders.sitting;
     }
 
@@ -1313,7 +1326,7 @@ public final class BabyRound {
         if (asleepOrAlone()) {
             return NOT_SO;
         }
-        orders.search(state, m);
+        orders.search(state, m, undoing.changes);
         return at(orders.lucky, aunt);
     }
 
@@ -1403,7 +1416,7 @@ public final class BabyRound {
         if (asleepOrAlone()) {
             return NOT_SO;
         }
-        orders.search(state, m);
+        orders.search(state, m, undoing.changes);
         return what == 0 ? orders.apart.worth : orders.apart.which;
     }
 

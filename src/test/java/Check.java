@@ -15,7 +15,8 @@ final class Check {
         if (got != want) {
             wrong++;
             if (wrong <= 40) {
-                System.out.println(name + ": " + call + " answered " + got + ", due is " + want);
+                String end = call.length() > 200 ? call.substring(0, 40) + " .. " + call.substring(call.length() - 100) : call;
+                System.out.println(name + ": " + end + " answered " + got + ", due is " + want);
             }
         }
     }

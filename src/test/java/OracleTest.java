@@ -19,7 +19,7 @@ final class OracleTest {
     }
 
     public static void main(String[] args) {
-        int runs = args.length > 0 ? Integer.parseInt(args[0]) : 500;
+        int runs = args.length > 0 ? Integer.parseInt(args[0]) : 200;
         int from = args.length > 1 ? Integer.parseInt(args[1]) : 0;
         Check check = new Check("OracleTest");
         for (int run = from; run < from + runs && !check.isWrong(); run++) {
@@ -270,12 +270,29 @@ final class OracleTest {
                 say("fed(" + known + "," + i + ")", x.fed(known, i), y.fed(known, i));
                 break;
             }
+            case 28: sameOrders(); break;
             default: {
                 int asked = arg(15);
                 say("count(" + asked + ")", x.count(asked), y.count(asked));
                 say("now(" + asked + ")", x.now(asked), y.now(asked));
                 say("law(" + asked + ")", x.law(asked), y.law(asked));
                 say("aunt(" + a + "," + asked + ")", x.aunt(a, asked), y.aunt(a, asked));
+            }
+        }
+    }
+
+    /** The calls that go through the same orders, one behind the other, with a change between or not. */
+    private void sameOrders() {
+        int m = 1 + n(2);
+        for (int i = 0; i < 3; i++) {
+            say("order(" + m + ")", x.order(m), y.order(m));
+            say("orderAt(" + m + "," + i + ")", x.orderAt(m, i), y.orderAt(m, i));
+            say("sitters(" + m + ")", x.sitters(m), y.sitters(m));
+            say("luck(" + i + "," + m + ")", x.luck(i, m), y.luck(i, m));
+            say("fairest(" + m + ",0)", x.fairest(m, 0), y.fairest(m, 0));
+            say("fairest(" + m + ",1)", x.fairest(m, 1), y.fairest(m, 1));
+            if (one(2)) {
+                change();
             }
         }
     }
