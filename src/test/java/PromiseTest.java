@@ -51,6 +51,8 @@ final class PromiseTest {
         promise42();
         lastMinuteOfSleep();
         copies();
+        ordersAnew();
+        sixAunts();
         CHECK.end();
     }
 
@@ -142,6 +144,9 @@ final class PromiseTest {
         fault("aunt seen 1 2 3 4;", 1, 5);
         fault("aunt iff 1 2 3 4;", 0, NONE);
         fault("aunt see 1 2 3 4;", 0, NONE);
+        fault("aunt bind 1 2 3 4;aunt fires 1 2 3 4;aunt winda 1 2 3 4;", 0, NONE);
+        fault("aunt ab 1 2 3 4;aunt ba 1 2 3 4;aunt aab 1 2 3 4;aunt aba 1 2 3 4;", 0, NONE);
+        fault("aunt abcdefgh 1 2 3 4;aunt abcdefgi 1 2 3 4;aunt bbcdefgh 1 2 3 4;aunt abcdefgh 1 2 3 4;", 3, 71);
         fault("aunt A 1 2 3 4;", 1, 5);
         fault("aunt a1 2 3 4;", 0, NONE);
         fault("aunt 1 2 3 4;", 1, 5);
@@ -267,7 +272,7 @@ final class PromiseTest {
         BabyRound y = of("aunt a 1 2 3 4; cries=if 1<2 then 3 else 4; cries=5; tires=1/0; tires=2;");
         due("4: of several the last one", y.law(4), 5);
         due("4: of several the last one", y.law(1), 2);
-        BabyRound z = of("aunt a 1 2 3 4; cries=1/0; spits=6; seed 77; seed 78; feeds 1; feeds 2; fresh 3; fresh 4;");
+        BabyRound z = of("baby 1 2 3 4; aunt a 1 2 3 4; cries=1/0; spits=6; seed 77; seed 78; feeds 1; feeds 2; fresh 3; fresh 4;");
         due("8: divided by 0", z.law(4), 0);
         due("8: another law", z.law(6), 6);
         due("4: fresh", z.count(11), 4);
@@ -277,9 +282,9 @@ final class PromiseTest {
         int sick = 0;
         for (int minute = 0; minute < 100; minute++) {
             sick += lot(100, 0, minute) < 50 ? 1 : 0;
+            z.minutes(1);
+            due("4: seed 0 if not told", z.aunt(0, 6), sick);
         }
-        z.minutes(100);
-        due("4: seed 0 if not told", z.aunt(0, 6), sick);
         due("4: another text", Check.tellText(z, "fresh 9;"), 0);
         due("4: no baby told", z.now(0) + z.now(1) + z.now(2) + z.now(3), 0);
         due("4: nobody has it", z.now(4), -2);
@@ -311,6 +316,7 @@ final class PromiseTest {
         BabyRound x = of("baby 9 8 7 6;" + ABC + "cries=5; fresh 7; feeds 8; spits=100;");
         x.minutes(3);
         x.hand(1);
+        x.hand(2);
         x.cloth(true);
         x.mother(true);
         x.hold(0);
@@ -691,6 +697,9 @@ final class PromiseTest {
         due("17: asleep, no such", x.next(0, 0), NONE);
         due("17: alone", of("aunt a 1 1 1 1;").next(1, 0), -2);
         due("17: no aunts", new BabyRound().next(1, 0), -2);
+        BabyRound w = of("aunt a 0 0 0 0; aunt b 5 0 0 0; aunt c 4 0 0 0; cries=hunger+rock;");
+        due("17: each from now on", w.next(1, 0), 2);
+        due("17: each from now on", w.next(1, 1), 5);
         // the one who is new would be handed a merrier baby
         BabyRound y = of("aunt a 0 0 0 0; aunt b 0 0 0 0; aunt c 0 0 0 0; cries=30-wonder; fresh 10;");
         y.hand(1);
@@ -734,6 +743,7 @@ final class PromiseTest {
         // asleep with the first one behind her second minute, for 60 minutes that are none of hers
         BabyRound z = of("aunt a 0 0 0 0; aunt b 0 0 0 0; tires=1; sleeps=tired-1; cries=tired;");
         due("18: with sleep", z.order(3), 9);
+        due("18: a sleep behind each minute", of("aunt a 0 0 0 0; sleeps=1; cries=5;").order(10), 50);
     }
 
     private static void promise20() {
@@ -794,6 +804,15 @@ final class PromiseTest {
         z.hand(2);
         due("22: go on", z.wants(70, 0), 0);
         z.hand(1);
+        z.undo();
+        z.undo();
+        BabyRound toA = of("aunt a 0 0 0 0; aunt b 5 0 0 0; cries=rock;");
+        toA.hand(1);
+        due("22: a of b", toA.wants(70, 0), 4);
+        due("17: a of b", toA.next(70, 0), 0);
+        due("17: crying with a", toA.next(70, 1), 0);
+        z.hand(2);
+        z.hand(1);
         due("22: c of b", z.wants(120, 0), 6);
         due("22: crying", z.wants(120, 1), 0);
         BabyRound w = of("aunt a 0 0 0 0; cries=5*seen;");
@@ -837,6 +856,9 @@ final class PromiseTest {
         due("24: by law yet", x.law(4), 25);
         BabyRound y = of("aunt a 0 0 0 0; cries=7-rock;");
         due("24: the least", y.beat(0, 120, 0), 7);
+        due("24: 9", of("aunt a 0 0 0 0; cries=9-rock;").beat(0, 2, 0), 9);
+        due("24: not 10", of("aunt a 0 0 0 0; cries=99-rock;").beat(0, 2, 1), 180);
+        due("24: 0", of("aunt a 5 0 0 0; cries=rock;").beat(0, 2, 0), 0);
         due("24: aunt 1", y.beat(1, 1, 0), NONE);
         due("24: aunt -1", y.beat(-1, 1, 0), NONE);
         due("24: n 0", y.beat(0, 0, 0), NONE);
@@ -895,6 +917,7 @@ final class PromiseTest {
         due("26: apart", y.fairest(1, 0), 0);
         due("26: first", y.fairest(1, 1), 1);
         BabyRound z = of("baby 0 0 99 0; aunt a 0 0 0 0; aunt b 1 0 0 0; cries=rock;");
+        due("26: two minutes", z.fairest(2, 0), 2);
         due("26: never together", z.fairest(7, 0), 7);
         due("26: of alike ones the first", z.fairest(7, 1), 0);
         z.minutes(9);
@@ -924,6 +947,7 @@ final class PromiseTest {
         due("27: of alike ones the first", y.leftOut(10, 0), 0);
         due("27: crying", y.leftOut(10, 1), 50);
         due("27: alone", of("aunt a 5 0 0 0; cries=rock;").leftOut(10, 1), 0);
+        due("27: more crying than ahead", x.leftOut(10, 1), 40);
         due("27: m 0", x.leftOut(0, 0), NONE);
         due("27: m 11", x.leftOut(11, 0), NONE);
         due("27: what 2", x.leftOut(1, 2), NONE);
@@ -977,6 +1001,10 @@ final class PromiseTest {
         BabyRound y = of("aunt a 0 0 0 0; sleeps=1; cries=wind; feeds 30;");
         due("29: not asleep", y.feedAt(6, 0), 0);
         due("29: though dear", y.feedAt(6, 1), 30);
+        BabyRound late = of("aunt a 0 0 0 0; cries=wind; feeds 30;");
+        due("29: behind the last but one", late.feedAt(3, 0), 2);
+        due("29: it is fed", late.feedAt(3, 1), 30);
+        due("29: one minute", late.feedAt(1, 1), 30);
         due("29: n 0", x.feedAt(0, 0), NONE);
         due("29: n 61", x.feedAt(61, 0), NONE);
         due("29: what 2", x.feedAt(1, 2), NONE);
@@ -990,6 +1018,8 @@ final class PromiseTest {
         BabyRound x = of("aunt a 0 0 0 0; cries=if held<3 then 5-5*seen else 5*seen;");
         due("30: for two", x.inSight(4, 0), 2);
         due("30: crying", x.inSight(4, 1), 0);
+        due("30: more crying than ahead", of("aunt a 0 0 0 0; cries=5;").inSight(1, 1), 5);
+        due("30: one minute", x.inSight(1, 0), 1);
         due("30: all of them", of("aunt a 0 0 0 0; cries=5-5*seen;").inSight(60, 0), 60);
         due("30: none of them", of("aunt a 0 0 0 0; cries=5*seen;").inSight(60, 0), 0);
         due("30: the fewest", of("aunt a 0 0 0 0;").inSight(60, 0), 0);
@@ -1086,6 +1116,7 @@ final class PromiseTest {
             }
         }
         due("34: by seeds", x.silk(120, 20), lost);
+        due("34: one minute, one seed", of("aunt a 0 0 0 7; spits=100;").silk(1, 1), 7);
         due("34: silk(0, 20)", x.silk(0, 20), 0);
         for (int[] wrong : new int[][] {{-1, 1}, {121, 1}, {1, 0}, {1, 21}, {MIN, MIN}, {MAX, MAX}}) {
             due("34: no such ones", x.silk(wrong[0], wrong[1]), NONE);
@@ -1310,5 +1341,83 @@ final class PromiseTest {
         y.silk(100, 20);
         y.minutes(100);
         due("34: the seed is told yet", y.aunt(0, 6), sick);
+    }
+
+    private static void asked(BabyRound x, String behind, int crying, int first) {
+        due("18: order behind " + behind, x.order(1), crying);
+        due("19: first behind " + behind, x.orderAt(1, 0), first);
+    }
+
+    /** Whatever changes, what is asked is of how it stands now. */
+    private static void ordersAnew() {
+        // of two: CRY of the first minute and of the second, times 1 with a and 3 with b
+        String text = "aunt a 1 0 0 0; aunt b 3 0 0 0; cries=rock*(hunger+2*seen); feeds 0; sleeps=0;";
+        BabyRound x = of("baby 9 0 0 0;" + text);
+        asked(x, "read", 30 + 11, 1);
+        x.hold(0);
+        x.minutes(1);
+        asked(x, "minutes", 33 + 12, 1);
+        x.nurse();
+        asked(x, "nurse", 3 + 2, 1);
+        x.mother(true);
+        asked(x, "mother", 9 + 4, 1);
+        x.undo();
+        asked(x, "undo", 3 + 2, 1);
+        x.restore(0);
+        asked(x, "restore", 30 + 11, 1);
+        due("4: read", Check.tellText(x, text), 0);
+        asked(x, "another text", 3 + 2, 1);
+        due("4: read", Check.tellText(x, "aunt a 3 0 0 0; aunt b 1 0 0 0; cries=rock;"), 0);
+        asked(x, "another text", 4, 0);
+        due("4: read", Check.tellText(x, "aunt a 3 0 0 0; aunt b 1 0 0 0; cries=rock*hunger;"), 0);
+        asked(x, "another text", 5, 0);
+        BabyRound y = of("aunt a 0 0 0 0; aunt b 0 0 0 0; cries=held;");
+        y.minutes(1);
+        asked(y, "minutes", 2, 1);
+        y.hand(1);
+        asked(y, "hand", 2, 0);
+        y.lay();
+        due("18: order behind lay", y.order(1), -2);
+        y.undo();
+        asked(y, "undo", 2, 0);
+        due("18: another m", y.order(2), 6);
+        due("20: another m", y.sitters(3), 0);
+        due("21: another m", y.luck(0, 4), 2);
+        asked(y, "other ones", 2, 0);
+        BabyRound z = of("aunt a 1 0 0 0; aunt b 1 0 0 0; winds=9; cries=wind; spits=50; seed 1234;");
+        int crying = z.crying(60);
+        z.silk(100, 20);
+        due("16: by the text's seed", z.crying(60), crying);
+        z.minutes(60);
+        due("16: as it is", z.count(2), crying);
+    }
+
+    private static void sixAunts() {
+        BabyRound x = of("aunt a 1 0 0 0; aunt b 2 0 0 0; aunt c 3 0 0 0; aunt d 4 0 0 0; aunt e 5 0 0 0; aunt f 6 0 0 0 sits;"
+            + "cries=rock*hunger; tires=1; sleeps=tired-5;");
+        due("18: of 720", x.order(1), 56);
+        for (int i = 0; i < 6; i++) {
+            due("19: the last one first", x.orderAt(1, i), 5 - i);
+        }
+        due("20: the last one of the order sits", x.sitters(1), 120);
+        int all = 0;
+        for (int a = 0; a < 6; a++) {
+            all += x.luck(a, 1);
+        }
+        due("21: one of them in each order", all, 720);
+        due("27: without f", x.leftOut(1, 0), 5);
+        due("27: crying", x.leftOut(1, 1), 55);
+        BabyRound y = of("baby 0 0 99 0; aunt a 1 0 0 0; aunt b 2 0 0 0; aunt c 3 0 0 0; aunt d 4 0 0 0; aunt e 5 0 0 0; aunt f 6 0 0 0;");
+        due("33: all", y.rests(10, -1), 1);
+        due("33: all", y.rests(10, 0), 63);
+        BabyRound z = of("aunt a 1 0 0 0; aunt b 2 0 0 0; aunt c 3 0 0 0; aunt d 4 0 0 0; aunt e 5 0 0 0; aunt f 6 0 0 0; fresh 0;");
+        due("33: each set", z.rests(1, -1), 64);
+        due("33: the last one", z.rests(1, 63), 63);
+        due("42: aunts", z.count(0), 6);
+        for (int a = 1; a < 6; a++) {
+            z.hand(a);
+        }
+        due("42: all had it", z.count(13), 63);
+        due("25: round to the first one", z.round(0, 1, 2, 2), 0);
     }
 }
