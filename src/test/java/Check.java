@@ -55,6 +55,38 @@ final class Check {
         return x.read();
     }
 
+    /** LOT of the document, in longs. */
+    static int lot(int n, long seed, long which) {
+        long h = seed;
+        for (long it : new long[] {37, which}) {
+            h = (((h ^ it) & 0xffffffffL) * 1103515245L + 12345L) & 0xffffffffL;
+            h = h ^ (h >> 15);
+        }
+        return (int) ((h >> 1) % n);
+    }
+
+    /** All that an object answers of how it stands (not of its tape), in fewer than a hundred calls. */
+    static String all(BabyRound x) {
+        StringBuilder all = new StringBuilder();
+        for (int what = 0; what <= 12; what++) {
+            all.append(x.now(what)).append(' ');
+        }
+        for (int aunt = 0; aunt < x.count(0); aunt++) {
+            for (int what = 0; what <= 7; what++) {
+                all.append(x.aunt(aunt, what)).append(' ');
+            }
+        }
+        for (int which = 0; which <= 6; which++) {
+            all.append(x.law(which)).append(' ');
+        }
+        for (int what = 0; what <= 13; what++) {
+            all.append(what == 7 ? 0 : x.count(what)).append(' ');
+        }
+        all.append(x.crying(240)).append(' ').append(x.silk(120, 2)).append(' ').append(x.next(20, 1)).append(' ');
+        all.append(x.round(0, 3, 30, 0)).append(' ').append(x.fed(x.count(9), 0)).append(' ').append(x.merry());
+        return all.toString();
+    }
+
     /** A new object that has read a text, which has no fault. */
     static BabyRound of(String text) {
         BabyRound x = new BabyRound();
