@@ -82,9 +82,16 @@ final class KeptEdgeTest {
         for (int i = 0; i < 19; i++) {
             y.tell(0, 7);
         }
-        due("37: the 20th", y.tell(0, 8), 19);
+        due("37: the 20th", y.tell(5, 13), 19);
         due("39: KNOWN by k: the first k, 19", y.fed(19, NONE), 1);
         due("39: KNOWN by k: the first k, 20", y.fed(20, NONE), 0);
+        y.forget();
+        for (int i = 0; i < 19; i++) {
+            y.tell(0, 7);
+        }
+        due("37: the 20th", y.tell(5, 12), 19);
+        due("39: KNOWN by k: the first k, 20", y.fed(20, NONE), 1);
+        due("39: KNOWN by k: the first k, 20", y.fed(20, 0), 6);
     }
 
     private static void forget() {

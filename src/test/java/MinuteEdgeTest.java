@@ -873,6 +873,16 @@ final class MinuteEdgeTest {
             due(s, x.undo(), true);
             due(s + ", thing " + thing, Check.all(x).equals(ahead), true);
         }
+        // hers are her ROCK, SHOW and BEARD again
+        BabyRound w = of("aunt a 1 2 3 4; aunt b 5 6 7 8; cries=rock; spits=show; winds=beard;");
+        w.hand(1);
+        w.undo();
+        due("15: hers again", w.law(4) * 100 + w.law(6) * 10 + w.law(3), 123);
+        w.hold(0);
+        w.hand(1);
+        due("15: hers", w.law(4) * 100 + w.law(6) * 10 + w.law(3), 567);
+        w.restore(0);
+        due("41: hers again", w.law(4) * 100 + w.law(6) * 10 + w.law(3), 123);
         // refused calls, questions, the tape, what is told and held are none
         BabyRound z = of("aunt a 0 0 0 0; aunt b 0 0 0 0;");
         z.hand(1);

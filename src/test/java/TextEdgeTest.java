@@ -46,6 +46,7 @@ final class TextEdgeTest {
         ofOnePlaceTheLeast();
         textsEnd();
         token401();
+        token401OfEach();
         aunt7();
         if5();
         open7();
@@ -379,9 +380,25 @@ final class TextEdgeTest {
             due(s, x.aunt(n, 5), NONE);
             due(s, x.now(4), n == 0 ? -2 : 0);
         }
+        sixth();
         fault(s, aunts(7), ROOM, aunts(6).length());
         fault(s, aunts(8), ROOM, aunts(6).length());
         fault(s, aunts(5) + "fresh 1;" + "aunt q 1 2 3 4;" + "fresh 2;" + "aunt r 1 2 3 4;", ROOM, aunts(5).length() + 8 + 15 + 8);
+    }
+
+    /** Each of the sixth one's ways is hers. */
+    private static void sixth() {
+        String s = "I: AUNTS, 6 at most (a NAME, ROCK, SHOW, BEARD, SILK, whether she SITS), the sixth";
+        BabyRound x = fine(s, aunts(5) + "aunt f 6 7 8 9 sits; cries=rock*10+show; tires=beard; spits=100; fresh 0;");
+        due(s + ", SITS", x.sitters(1), 0);
+        x.hand(5);
+        due(s + ", ROCK, SHOW", x.law(4), 67);
+        due(s + ", BEARD", x.law(1), 8);
+        x.minutes(1);
+        due(s + ", SILK", x.aunt(5, 4), 9);
+        due(s + ", her tallies", x.aunt(5, 1), 67);
+        due(s + ", SITS", fine(s, aunts(5) + "aunt f 6 7 8 9 sits; sleeps=hunger-5;").sitters(1), 120);
+        due(s + ", SITS not", fine(s, "aunt q 1 1 1 1 sits;" + aunts(5) + "sleeps=hunger-5;").sitters(1), 120);
     }
 
     private static void auntNumbers() {
@@ -544,6 +561,11 @@ final class TextEdgeTest {
                 due(s + ", " + text, fine(s, "aunt a 0 0 0 0;" + text).law(which), two);
             }
             due(s + ", of another LAW", fine(s, "aunt a 0 0 0 0;" + texts[0]).law((which + 1) % 7), which == 6 || which == 0 ? 1 : 0);
+            // whatever is told of others behind it, that it had an if is over
+            String others = LAWS.get((which + 3) % 7) + "=99;" + LAWS.get((which + 4) % 7) + "=if 1<2 then 88 else 77;";
+            due(s + ", its ifs are over", fine(s, "aunt a 0 0 0 0;" + texts[1] + others).law(which), two);
+            String more = law + "=if 1<2 then " + one + " else if 1<3 then " + one + " else " + one + ";";
+            due(s + ", its ifs are over", fine(s, "aunt a 0 0 0 0;" + more + texts[2] + others).law(which), two);
         }
     }
 
@@ -641,6 +663,25 @@ final class TextEdgeTest {
         fault(s, "cries=" + sum(900) + ";", ROOM, 6 + 398);
     }
 
+    /** Each token of each TELL as the 400th, at which the text is cut off, and as the 401st. */
+    private static void token401OfEach() {
+        String s = "I: ROOM: a 401st TOKEN, whichever";
+        for (String tell : List.of("baby 1 2 3 4 ;", "aunt z 1 2 3 4 sits ;", "aunt z 1 2 3 4 ;", "fresh 1 ;", "feeds 2 ;", "seed 3 ;",
+            "spits = 1 ;", "hungers = if ( hunger + 1 ) * 2 < tired - 3 / wonder then wind else held ;")) {
+            String[] tokens = tell.split(" ");
+            int behind = 0;
+            for (int i = 0; i < tokens.length; i++) {
+                String padding = padding(400 - i);
+                fault(s, padding + tell, ROOM, padding.length() + behind);
+                fault(s, padding + tell + "?", ROOM, padding.length() + behind);
+                behind += tokens[i].length() + 1;
+                String one = padding(399 - i);
+                fault(s + ": the 400th is none", one + tell.substring(0, Math.min(behind, tell.length())), i + 1 == tokens.length ? 0 : SYNTAX,
+                    i + 1 == tokens.length ? NONE : one.length() + behind);
+            }
+        }
+    }
+
     private static void aunt7() {
         String s = "I: ROOM: a 7th aunt (at its first TOKEN)";
         String six = aunts(6);
@@ -730,10 +771,13 @@ final class TextEdgeTest {
         x.mother(true);
         x.nurse();
         x.hand(2);
-        x.minutes(5);
+        x.lay();
+        x.minutes(65);
         x.tell(0, 3);
         x.tell(7, 5);
-        x.hold(1);
+        for (int slot = 0; slot < 3; slot++) {
+            x.hold(slot);
+        }
         return x;
     }
 
@@ -763,7 +807,8 @@ final class TextEdgeTest {
 
     private static void elseInPlaceOfTheOneAhead() {
         String s = "I: else it is in place of the one ahead";
-        for (String text : List.of("", "aunt q 1 2 3 4;", "baby 1 2 3 4;", RICH, "fresh 1;", "aunt q 1 1 1 1; aunt r 2 2 2 2; tires=3; cries=rock;")) {
+        for (String text : List.of("", "aunt q 1 2 3 4;", "baby 1 2 3 4;", RICH, "fresh 1;", "aunt q 1 1 1 1; aunt r 2 2 2 2; tires=3; cries=rock;",
+            "aunt q 1 2 3 4; spits=50;", "aunt q 1 2 3 4; seed 3; spits=50; winds=9; cries=wind;", "aunt q 1 2 3 4; aunt r 5 6 7 8; fresh 99; wonders=seen;")) {
             BabyRound x = rich();
             due(s, Check.tellText(x, text), 0);
             BabyRound y = Check.of(text);
@@ -884,6 +929,18 @@ final class TextEdgeTest {
         due(s + ", full", Check.tellText(x, blank(1992) + "fresh 9;"), 0);
         due(s, x.count(7), 0);
         due(s, x.feed(0, 0, 0, 0, 0), 20);
+        String t = "4: a text is read like the first one, whatever FAULT was ahead";
+        for (String ahead : List.of("cries=((1-2*", "cries=1*(2+", "cries=if 1<(2*3", "cries=if 1<2 then (((", "aunt q 1", "baby 5 5", "fresh 100;",
+            "aunt a 9 9 9 9; tires=5; winds=if 1<2 then 3 else 4; seed 5; ?", full() + "fresh", aunts(7))) {
+            BabyRound y = new BabyRound();
+            Check.tellText(y, ahead);
+            due(t + ", " + ahead, Check.tellText(y, "aunt a 0 0 0 0; cries=7-2*3; tires=9/(1+2); spits=50;"), 0);
+            due(t + ", " + ahead, y.law(4), 1);
+            due(t + ", " + ahead, y.law(1), 3);
+            due(t + ", " + ahead, y.law(3), 0);
+            due(t + ", " + ahead, y.count(0), 1);
+            due(t + ", " + ahead, lotsOf(y), lotsDue(0));
+        }
     }
 
     private static void promise5() {

@@ -22,6 +22,8 @@ final class WouldEdgeTest {
         withoutAunts();
         alone();
         nothingHappens();
+        asOfNow();
+        askedAhead();
         asleepToo();
         crying();
         next();
@@ -337,6 +339,151 @@ final class WouldEdgeTest {
         due(s, x.now(4), 2);
     }
 
+    private static int ask(BabyRound x, int question) {
+        switch (question) {
+            case 0: return x.crying(70);
+            case 1: return x.next(70, 1);
+            case 2: return x.order(3);
+            case 3: return x.orderAt(3, 0) * 10 + x.orderAt(3, 1);
+            case 4: return x.sitters(9);
+            case 5: return x.luck(1, 3);
+            case 6: return x.wants(70, 1);
+            case 7: return x.moment(70);
+            case 8: return x.beat(1, 70, 1);
+            case 9: return x.round(0, 3, 70, 0);
+            case 10: return x.round(2, 3, 70, 2);
+            case 11: return x.fairest(3, 0) * 10 + x.fairest(3, 1);
+            case 12: return x.leftOut(3, 1);
+            case 13: return x.bestRound(70, 1);
+            case 14: return x.feedAt(40, 1);
+            case 15: return x.inSight(40, 1);
+            case 16: return x.peak(70, 0) * 100 + x.peak(70, 1);
+            case 17: return x.merry();
+            case 18: return x.rests(3, NONE) * 10 + x.rests(3, 0);
+            case 19: return x.silk(70, 7);
+            case 20: return x.sleeps();
+            case 21: return x.round(1, 3, 70, 1);
+            case 22: return x.fed(1, NONE);
+            default: return x.luck(0, 3);
+        }
+    }
+
+    private static BabyRound going(boolean asked) {
+        BabyRound x = of("baby 10 20 55 40; aunt a 1 2 3 4 sits; aunt b 5 6 7 8; aunt c 9 8 7 6; cries=if wind<50 then 0 else hunger/9+held+rock;"
+            + "wonders=show-6; winds=seen+beard-2; spits=wind/2; tires=2; sleeps=tired-70; fresh 7; feeds 8; seed 99;");
+        x.tell(0, 0);
+        if (asked) {
+            askAll(x);
+        }
+        x.minutes(5);
+        x.hand(2);
+        x.minutes(6);
+        x.mother(true);
+        x.hand(1);
+        return x;
+    }
+
+    /** Each question alone, and with all of them asked ahead of what was done. */
+    private static void askedAhead() {
+        for (int question = 0; question < 24; question++) {
+            due("III: question " + question + " as it stands now, whatever was asked ahead", ask(going(true), question), ask(going(false), question));
+        }
+        String s = "III: as it stands now";
+        BabyRound x = of("aunt a 2 0 0 0 sits; aunt b 3 0 0 0; fresh 0; cries=rock*hunger; tires=0; sleeps=if hunger<9 then 0 else 1;");
+        due(s + ", SITTERS", x.sitters(2), 0);
+        x.minutes(5);
+        // HUNGER 9 in the fourth MINUTE: with the second one
+        due(s + ", SITTERS", x.sitters(2), 1);
+        x.undo();
+        due(s + ", LUCK", x.luck(0, 1), 1);
+        x.minutes(3);
+        due(s + ", LUCK", x.luck(0, 1), 2);
+        BabyRound y = of(AB + "cries=held; fresh 0;");
+        y.minutes(2);
+        due(s + ", the ORDER's first", y.orderAt(1, 0), 1);
+        y.hand(1);
+        y.minutes(1);
+        due(s + ", the ORDER's first", y.orderAt(1, 0), 0);
+    }
+
+    private static void asOfNow(String when, BabyRound x, int who, int crying) {
+        String s = "III: What would be, as it stands now, behind ";
+        due(s + when + ", ORDER", x.order(1), crying);
+        due(s + when + ", the first of it", x.orderAt(1, 0), who);
+    }
+
+    /** Whatever was asked ahead, what is asked is of how it stands now. */
+    private static void asOfNow() {
+        // of two MINUTES, the second with 1 more HUNGER: times 1 with a, 3 with b
+        BabyRound x = of("baby 9 0 0 0; aunt a 1 0 0 0; aunt b 3 0 0 0; cries=rock*(hunger+2*seen); feeds 0;");
+        asOfNow("read", x, 1, 30 + 11);
+        x.minutes(1);
+        asOfNow("minutes", x, 1, 33 + 12);
+        x.undo();
+        asOfNow("undo", x, 1, 30 + 11);
+        x.nurse();
+        asOfNow("nurse", x, 1, 3 + 2);
+        x.undo();
+        x.mother(true);
+        asOfNow("undo, mother", x, 1, 36 + 13);
+        x.undo();
+        x.minutes(2);
+        asOfNow("undo, minutes", x, 1, 36 + 13);
+        x.hold(0);
+        x.minutes(1);
+        asOfNow("hold, minutes", x, 1, 39 + 14);
+        x.restore(0);
+        asOfNow("restore", x, 1, 36 + 13);
+        x.minutes(3);
+        asOfNow("restore, minutes", x, 1, 45 + 16);
+        BabyRound y = of(AB + "cries=held; fresh 0;");
+        y.minutes(2);
+        asOfNow("minutes", y, 1, 2);
+        y.hand(1);
+        asOfNow("hand", y, 0, 2);
+        y.minutes(1);
+        asOfNow("minutes", y, 0, 2);
+        y.undo();
+        y.lay();
+        due("III: What would be, as it stands now, behind lay", y.order(1), NOT);
+        y.minutes(60);
+        asOfNow("sleep", y, 0, 2);
+        // the same number of things done, another one
+        y.undo();
+        y.undo();
+        y.hand(0);
+        asOfNow("undo, undo, hand", y, 0, 2);
+        BabyRound z = of("aunt a 0 0 0 0; cries=hunger; feeds 0;");
+        z.minutes(4);
+        due("III: as it stands now", z.order(1), 5);
+        z.undo();
+        z.minutes(6);
+        due("III: as it stands now", z.order(1), 7);
+        z.undo();
+        z.nurse();
+        due("III: as it stands now", z.order(1), 1);
+        // what was least in another question is none of this one's
+        BabyRound w = of("aunt a 5 0 0 0; aunt b 0 0 0 0; cries=rock+seen; fresh 0;");
+        due("III: one question behind the other, NEXT", w.next(9, 1), 0);
+        due("III: one question behind the other, FEED AT", w.feedAt(3, 1), 15);
+        due("III: one question behind the other, FEED AT", w.feedAt(3, 0), 0);
+        due("III: one question behind the other, WANTS", w.wants(9, 1), 0);
+        due("III: one question behind the other, IN SIGHT", w.inSight(3, 1), 15);
+        due("III: one question behind the other, IN SIGHT", w.inSight(3, 0), 0);
+        due("III: one question behind the other, BEAT", w.beat(1, 1, 1), 0);
+        due("III: one question behind the other, BEST ROUND", w.bestRound(9, 1), 5);
+        due("III: one question behind the other, LEFT OUT", w.leftOut(2, 1), 0);
+        due("III: one question behind the other, LEFT OUT", w.leftOut(2, 0), 0);
+        // other SEEDS are those of SILK alone
+        BabyRound v = of("aunt a 0 0 0 1; winds=9; cries=wind; spits=50; seed 1234;");
+        int crying = v.crying(60);
+        v.silk(60, 20);
+        due("III: SILK, then CRYING by the text's SEED", v.crying(60), crying);
+        v.silk(60, 20);
+        v.minutes(60);
+        due("III: CRYING as it is, by the text's SEED", v.count(2), crying);
+    }
+
     /** Those that refuse nothing as it is ASLEEP go on through its sleep. */
     private static void asleepToo() {
         BabyRound x = of("baby 0 0 60 0; aunt a 0 0 0 7; aunt b 0 0 0 0; cries=if held<2 then 0 else 5; spits=100;");
@@ -457,6 +604,17 @@ final class WouldEdgeTest {
         due(s, of(AB + "cries=hunger; sleeps=if held<4 then 0 else 1;").order(3), 21);
         BabyRound six = of(SIX + "cries=1; sleeps=1;");
         due(s + ", a sleep behind each MINUTE", six.order(10), 60);
+        // a, with whom it grows no hungrier, keeps it to the end of its sleep, b has it awake alone
+        for (int m = 1; m <= 10; m++) {
+            int all = 0;
+            int hunger = 0;
+            for (int minute = 0; minute < m; minute++) {
+                hunger = Math.min(99, hunger + 1);
+                all += hunger;
+                hunger = Math.min(99, hunger + 60);
+            }
+            due(s + ", m " + m, of("aunt a 0 0 0 0; aunt b 1 0 0 0; hungers=rock; cries=hunger; sleeps=1;").order(m), all);
+        }
     }
 
     private static void orderAt() {
@@ -491,6 +649,15 @@ final class WouldEdgeTest {
         due(s, z.orderAt(1, 0), 1);
         due(s, z.orderAt(1, 1), 2);
         due(s, z.orderAt(1, 2), 0);
+        // one question behind the other, each of its own
+        BabyRound again = of("baby 0 0 60 0; aunt a 1 0 0 0; aunt b 2 0 0 0; fresh 0; cries=if hunger<9 then rock-1 else hunger;");
+        due("III: one question behind the other", again.order(1), 1);
+        due("III: one question behind the other", again.order(4), 4);
+        due("III: one question behind the other", again.fairest(4, 0), 4);
+        due("III: one question behind the other", again.order(2), 2);
+        due("III: one question behind the other", again.fairest(2, 0), 2);
+        due("III: one question behind the other", again.order(1), 1);
+        due("III: one question behind the other", again.fairest(1, 0), 1);
         BabyRound last = of("aunt a 3 0 0 0; aunt b 4 0 0 0; aunt c 5 0 0 0; aunt d 6 0 0 0; cries=rock*hunger;");
         for (int i = 0; i < 4; i++) {
             due("III: that order with least CRYING, the last of all", last.orderAt(1, i), 3 - i);
@@ -511,6 +678,11 @@ final class WouldEdgeTest {
             due(s + ", in the last MINUTE of all", of(aunts + "sleeps=hunger-29;").sitters(10), 2 * who);
             due(s + ", a MINUTE too late", of(aunts + "sleeps=hunger-30;").sitters(10), 0);
         }
+        // with whom it falls ASLEEP a second time is of no account: b, behind a who SITS
+        String twice = "sleeps=if hunger<2 then 1 else rock;";
+        due(s + ", a second time", of("aunt a 0 0 0 0 sits; aunt b 1 0 0 0;" + twice).sitters(1), 1);
+        due(s + ", a second time", of("aunt a 0 0 0 0; aunt b 1 0 0 0 sits;" + twice).sitters(1), 1);
+        due(s + ", a second time", of("aunt a 1 0 0 0; aunt b 0 0 0 0 sits;" + twice).sitters(1), 1);
         // it fell ASLEEP already, ahead of these MINUTES
         BabyRound x = of("aunt a 0 0 0 0 sits; aunt b 0 0 0 0;");
         x.lay();
@@ -529,6 +701,10 @@ final class WouldEdgeTest {
         }
         alike.hand(5);
         due(s + " (of alike ones the first is meant), whoever has it", alike.luck(0, 10), 720);
+        BabyRound sixth = of("aunt a 1 0 0 0; aunt b 1 0 0 0; aunt c 1 0 0 0; aunt d 1 0 0 0; aunt e 1 0 0 0; aunt f 0 0 0 0; cries=rock;");
+        for (int aunt = 0; aunt < 6; aunt++) {
+            due(s + ", the sixth", sixth.luck(aunt, 3), aunt == 5 ? 720 : 0);
+        }
         BabyRound rising = of(ABC + "cries=hunger;");
         for (int aunt = 0; aunt < 3; aunt++) {
             due(s + ", her who is first in the order", rising.luck(aunt, 3), 2);
@@ -660,6 +836,12 @@ final class WouldEdgeTest {
         y.minutes(100);
         due(s, y.wants(120, 0), 4);
         due(s, y.wants(120, 1), anew);
+        // nobody else is better; b herself, anew, would be
+        BabyRound z = of("baby 0 50 0 0; aunt a 9 0 0 0; aunt b 0 0 0 0; aunt c 9 0 0 0; tires=0; cries=if tired<1 then 99 else held/10+rock*9;");
+        z.hand(1);
+        z.minutes(100);
+        due(s + ", she has it", z.wants(120, 0), 0);
+        due(s + ", she has it", z.wants(120, 1), goesOn);
     }
 
     private static void moment() {
