@@ -908,7 +908,7 @@ final class WouldEdgeTest {
             BabyRound y = of(ABC);
             y.minutes(held);
             due(s + ", HELD " + held + " ahead", y.round(0, 2, 1, 2), held >= 2 ? 1 : 0);
-            due(s + ", HELD " + held + " ahead", y.round(2, 2, 1, 2), held >= 2 ? 1 : 0);
+            due("III: ROUND by 2 when HELD m, HELD " + held + " ahead", y.round(2, 2, 1, 2), held >= 2 ? 1 : 0);
         }
         // from her who has it now, the first one behind the last one
         BabyRound z = of(ABC);
